@@ -1031,6 +1031,15 @@ public final class PromiseTest {
         due(1, x.attempt(0));
         due(4, x.attempted(0));
         due(NONE, x.attempted(1));
+        x.jam(0, 9, 1);
+        type(x, 2);
+        x.attempt(0);
+        due(5, x.attempted(2));
+        x.untype();
+        due(1, x.attempt(0));
+        due(0, x.attempted(0));
+        due(NONE, x.attempted(1));
+        due(0, x.attempted(2));
     }
 
     private static void promise29() {
@@ -1366,6 +1375,36 @@ public final class PromiseTest {
         x.truth(0, 2, 1, false);
         x.search(0, 1000);
         due(x.searched(0), x.traps());
+        manyRoads();
+    }
+
+    /** As many neighbours as states can have, ways between the same two states, and searches one behind the other. */
+    private static void manyRoads() {
+        PuzzleChests x = house();
+        int[][] spans = {{4, 4, 4, 4, 4}, {2, 2, 2, 2, 2, 2, 2, 2, 2, 2}, {3, 3, 3, 3, 3, 4}, {1, 6, 6, 6, 4}, {5}};
+        int[] numbers = {1024, 1024, 972, 864, 5};
+        for (int i = 0; i < 10; i++) {
+            int[] row = spans[i % 5];
+            x.clear(0);
+            for (int r = 0; r < 4; r++) {
+                x.row(0, r, 4);
+            }
+            for (int seat = 0; seat < row.length; seat++) {
+                x.part(0, seat, RING, row[seat], 0);
+            }
+            int last = row.length - 1;
+            x.condition(0, -1, last, row[last]);
+            x.truth(0, 0, row[last] - 1, true);
+            x.search(0, 1000);
+            due(1, x.goOn(1000));
+            due(numbers[i % 5], x.searched(0));
+            due(0, x.traps());
+            due(1, x.shortest() >= 0 ? 1 : 0);
+            x.truth(0, 0, row[last] - 1, false);
+            x.search(0, 1000);
+            x.goOn(1000);
+            due(numbers[i % 5], x.traps());
+        }
     }
 
     private static void promise40() {
@@ -1398,6 +1437,17 @@ public final class PromiseTest {
         due(1, y.hint(0));
         y.ofNumber(0, 5);
         due(3, y.hint(0));
+        y.truth(0, 1, 0, true);
+        y.truth(0, 1, 2, false);
+        y.ofNumber(0, 5);
+        y.search(0, 1000);
+        due(2, y.hint(0));
+        y.ofNumber(0, 4);
+        due(1, y.hint(0));
+        y.truth(0, 1, 2, true);
+        y.truth(0, 1, 0, false);
+        y.ofNumber(0, 0);
+        hintsDown();
         y.take(0, 1);
         y.part(0, 1, PIN, 3, 0);
         y.search(0, 1000);
@@ -1416,6 +1466,23 @@ public final class PromiseTest {
         y.search(0, 1000);
         y.ofNumber(0, 3);
         due(NONE, y.hint(0));
+    }
+
+    private static void hintsDown() {
+        PuzzleChests x = house();
+        x.row(0, 0, 1);
+        x.part(0, 0, BAR, 4, 0);
+        x.condition(0, -1, 0, 1);
+        x.truth(0, 0, 0, true);
+        x.ofNumber(0, 3);
+        x.search(0, 1000);
+        due(0, x.hint(0));
+        x.part(0, 0, RING, 4, 0);
+        x.truth(0, 0, 0, true);
+        x.ofNumber(0, 1);
+        // OPEN is AT 3, two moves either way: the lesser move is told
+        x.search(0, 1000);
+        due(0, x.hint(0));
     }
 
     private static void promise41() {
@@ -1452,6 +1519,17 @@ public final class PromiseTest {
         due(1, x.marked(2));
         due(0, x.marked(4));
         x.goOn(1000);
+        x.ofNumber(0, 1);
+        x.search(0, 3);
+        x.mark(0, 1, true);
+        due(4, x.markAll());
+        due(4, x.count(13));
+        x.search(1, 1);
+        x.mark(0, 9, true);
+        due(1, x.markAll());
+        due(1, x.count(13));
+        due(0, x.search(0, 1));
+        due(1, x.goOn(1000));
         x.clear(0);
         due(9, x.markAll());
         due(9, x.count(13));
@@ -1681,6 +1759,16 @@ public final class PromiseTest {
         type(x, 1, 1, 0);
         x.play(0);
         traced(x, 12, 12, 12);
+        x.part(0, 0, PIN, 2, 0);
+        x.part(0, 1, PIN, 2, 0);
+        x.untype();
+        for (int i = 0; i < 40; i++) {
+            x.type(32);
+        }
+        due(40, x.play(0));
+        due(80, x.count(10));
+        due(13, x.trace(59));
+        due(NONE, x.trace(60));
     }
 
     private static void promise51() {
