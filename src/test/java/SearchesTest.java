@@ -89,6 +89,11 @@ public final class SearchesTest extends Sentences {
                 due(orders[i], x.ordered(i));
             }
             due(3, x.searched(0));
+            x.ofNumber(0, 2);
+            due(1, x.search(0, 2));
+            due(2, x.ordered(0));
+            due(3, x.ordered(1));
+            due(2, x.searched(0));
         });
         sentence(30, "a later one takes the place of the SEARCH that was", () -> {
             PuzzleChests x = searchedWhole();

@@ -66,6 +66,17 @@ public final class ToldTest extends Sentences {
             x.move(1, 0);
             due(1, x.alike(0, 1));
         });
+        sentence(46, "1 of shorter ones, behind a look at one that is longer", () -> {
+            PuzzleChests x = busy();
+            x.clear(1);
+            x.clear(2);
+            // the first byte behind those of the shorter ones is this SIDE, and must not be 0
+            x.part(0, 1, RING, 4, 5);
+            due(0, x.alike(0, 1));
+            due(1, x.alike(1, 2));
+            due(0, x.alike(1, 0));
+            due(1, x.alike(1, 2));
+        });
         differs("a ROW is NOTHING, the other one has no PLACES", x -> x.row(1, 3, 0));
         differs("a ROW has one PLACE more", x -> x.row(1, 2, 1));
         differs("a PART is gone", x -> x.take(1, 3));
